@@ -20,11 +20,11 @@ public final class FlatToLet {
     private static final int LIKES = 0, KEEPS = 1, OFFERS = 2, PARTS = 3;
     private static final String FIRST_TEXT = "likes light - damp ; keeps 1 ; offers rich ;";
 
-    /** What tokens are; a sign is its own byte. */
-    private static final int END = 0, NUMBER = 1, WRONG = 2, WORD_LIKES = 3, WORD_KEEPS = 4, WORD_OFFERS = 5;
-    private static final int OR = 6, AND = 7, NOT = 8, NEGATE = 9;
-    private static final int LIGHT = 10, DAMP = 11, ROOM = 12, HOUR = 13, CROWD = 14, RICH = 15, NAMES = 6;
-    private static final int DEPTH = 5, DIGITS = 4;
+    /** A token is a number from 0 on, or one of these, or less the byte that is its sign. */
+    private static final int END = -1, WRONG = -2, WORD_LIKES = -3, WORD_KEEPS = -4, WORD_OFFERS = -5;
+    private static final int OR = -6, AND = -7, NOT = -8, NEGATE = -9;
+    private static final int LIGHT = -10, DAMP = -11, ROOM = -12, HOUR = -13, CROWD = -14, RICH = -15;
+    private static final int NAMES = 6, DEPTH = 5, DIGITS = 4;
 
     private final State now = new State();
     private final State kept = new State();
@@ -172,11 +172,11 @@ public final class FlatToLet {
         int refusal = startTour(s);
         if (refusal != 0) return refusal;
         if (!areViewers(some) || !within(what, 3)) return NOT_SO;
-        fillOffers(some);
-        int most = firstOfMost(some);
-        if (what == 0) return most;
-        if (what == 1) return at(offered, most);
-        return at(offered, firstOfMost(most == NOBODY ? 0 : some & ~(1 << most)));
+        fillOffers(some, Integer.bitCount(some));
+        int first = firstOfMost(some);
+        if (what == 0) return first;
+        if (what == 1) return mostOffered(some);
+        return first == NOBODY ? 0 : mostOffered(some & ~(1 << first));
     }
 
     // ---- what is best
@@ -209,8 +209,8 @@ public final class FlatToLet {
         int hour = 0;
         for (int h = 0; h < HOURS; h++) {
             visit.setHour(h);
-            fillOffers(some);
-            int offer = at(offered, firstOfMost(some));
+            fillOffers(some, Integer.bitCount(some));
+            int offer = mostOffered(some);
             if (offer > most) {
                 most = offer;
                 hour = h;
@@ -228,10 +228,10 @@ public final class FlatToLet {
         int who = 0;
         // A smaller crowd is tried ahead of a larger one, so that of like offers the fewest stand.
         for (int crowd = 1; crowd <= now.viewers; crowd++) {
-            fillOffersAmong(all, crowd);
+            fillOffers(all, crowd);
             for (int some = 1; some <= all; some++) {
                 if (Integer.bitCount(some) != crowd) continue;
-                int offer = at(offered, firstOfMost(some));
+                int offer = mostOffered(some);
                 if (offer > most) {
                     most = offer;
                     who = some;
@@ -280,7 +280,7 @@ public final class FlatToLet {
             letCome(v, ALONE);
             int offer = visit.offer();
             if (quiet < quiet1 || offer < least) continue;
-            if (taken == NONE || offer > most || offer == most && quiet > quietest) {
+            if (taken == NONE || offer > most || (offer == most && quiet > quietest)) {
                 taken = v;
                 most = offer;
                 quietest = quiet;
@@ -293,8 +293,9 @@ public final class FlatToLet {
         if (startTour(s) != 0) return NO;
         if (n < 1 || n > MOST_WAITING || n > now.viewers) return NO;
         if (!within(skip, n) || !within(part, 2)) return NO;
-        fillOffersAmong((1 << n) - 1, ALONE);
-        int most = at(offered, firstOfMost((1 << n) - 1));
+        int all = (1 << n) - 1;
+        fillOffers(all, ALONE);
+        int most = mostOffered(all);
         int above = 0;
         int below = 0;
         firstOrder(n);
@@ -500,10 +501,10 @@ public final class FlatToLet {
     }
 
     private static int bound(int x, int least, int most) {
-        return Math.max(least, Math.min(most, x));
+        return x < least ? least : x > most ? most : x;
     }
 
-    /** What stands at a place of a row; 0 outside it, where no call looks on purpose but for nobody's offer. */
+    /** What stands at a place of a row; outside it, where no call should look, 0. */
     private static int at(int[] row, int i) {
         return i >= 0 && i < row.length ? row[i] : 0;
     }
@@ -575,13 +576,9 @@ public final class FlatToLet {
         return NONE;
     }
 
-    private void fillOffers(int some) {
-        fillOffersAmong(some, Integer.bitCount(some));
-    }
-
-    private void fillOffersAmong(int some, int crowd) {
+    private void fillOffers(int some, int crowd) {
         for (int v = 0; v < now.viewers; v++) {
-            if ((some >> v & 1) == 0) continue;
+            if (((some >> v) & 1) == 0) continue;
             letCome(v, crowd);
             set(offered, v, visit.offer());
         }
@@ -590,10 +587,15 @@ public final class FlatToLet {
     private int firstOfMost(int some) {
         int most = NOBODY;
         for (int v = 0; v < now.viewers; v++) {
-            if ((some >> v & 1) == 0) continue;
+            if (((some >> v) & 1) == 0) continue;
             if (most == NOBODY || at(offered, v) > at(offered, most)) most = v;
         }
         return most;
+    }
+
+    private int mostOffered(int some) {
+        int first = firstOfMost(some);
+        return first == NOBODY ? 0 : at(offered, first);
     }
 
     // ---- orders
@@ -713,20 +715,17 @@ public final class FlatToLet {
 
     private static class Couple extends Viewer {
         int likes(int room, int said, int more) {
-            int liked = super.likes(room, said, more);
-            return room == 0 ? bound(liked - 2 * more, -99, 99) : liked;
+            return room == 0 ? Math.max(-99, said - 2 * more) : said;
         }
 
         int keeps(int said, int liked, int more, boolean first, boolean last) {
-            int keeps = super.keeps(said, liked, more, first, last);
-            return first ? 2 * keeps : keeps;
+            return first ? 2 * said : said;
         }
     }
 
     private static class Student extends Viewer {
         int keeps(int said, int liked, int more, boolean first, boolean last) {
-            int keeps = super.keeps(said, liked, more, first, last);
-            return last ? keeps + more : keeps;
+            return last ? said + more : said;
         }
 
         int offers(int said, int mind, int crowd) {
@@ -738,7 +737,7 @@ public final class FlatToLet {
     private static final class Doctor extends Couple {
         int likes(int room, int said, int more) {
             int liked = super.likes(room, said, more);
-            return said < 0 ? bound(2 * liked, -99, 99) : liked;
+            return said < 0 ? Math.max(-99, 2 * liked) : liked;
         }
 
         int offers(int said, int mind, int crowd) {
@@ -797,13 +796,12 @@ public final class FlatToLet {
         private final int[] light = new int[ROOMS];
         private final int[] damp = new int[ROOMS];
         private final int[] walked = new int[ROOMS];
+        /** What each name of a text stands for. */
         private final int[] names = new int[NAMES];
         private int length;
         private Viewer kind = new Viewer();
         private int more;
-        private int rich;
         private int crowd;
-        private int hour;
         private int law;
         private int mind;
         /** Many questions change only what the mind does not hang on: it is counted anew only where it may differ. */
@@ -818,7 +816,7 @@ public final class FlatToLet {
                 set(light, r, at(state.light, r));
                 set(damp, r, at(state.damp, r));
             }
-            hour = state.hour;
+            setName(HOUR, state.hour);
             law = state.law;
             mindKnown = false;
         }
@@ -846,6 +844,7 @@ public final class FlatToLet {
 
         void setCrowd(int to) {
             crowd = to;
+            setName(CROWD, to);
             mindKnown = false;
         }
 
@@ -865,36 +864,46 @@ public final class FlatToLet {
         }
 
         void setRich(int to) {
-            rich = to;
+            setName(RICH, to);
             if (texts.mindNames(law, RICH)) mindKnown = false;
         }
 
         void setHour(int to) {
-            hour = to;
+            setName(HOUR, to);
             if (texts.mindNames(law, HOUR)) mindKnown = false;
         }
 
+        private void setName(int name, int to) {
+            set(names, LIGHT - name, to);
+        }
+
+        private void lookAt(int r) {
+            setName(LIGHT, at(light, r));
+            setName(DAMP, at(damp, r));
+            setName(ROOM, r);
+        }
+
+        private void lookAtNoRoom() {
+            setName(LIGHT, 0);
+            setName(DAMP, 0);
+            setName(ROOM, 0);
+        }
+
         int said(int part, int r) {
-            boolean ofRoom = part != OFFERS;
-            set(names, LIGHT - LIGHT, ofRoom ? at(light, r) : 0);
-            set(names, DAMP - LIGHT, ofRoom ? at(damp, r) : 0);
-            set(names, ROOM - LIGHT, ofRoom ? r : 0);
-            set(names, HOUR - LIGHT, hour);
-            set(names, CROWD - LIGHT, crowd);
-            set(names, RICH - LIGHT, rich);
-            int value = texts.value(law, part, names);
-            if (part == LIKES) return bound(value, -99, 99);
-            return bound(value, 0, part == KEEPS ? 9 : RICHES - 1);
+            if (part == OFFERS) lookAtNoRoom(); else lookAt(r);
+            return texts.said(law, part, names);
         }
 
         int liked(int r) {
-            return kind.likes(r, said(LIKES, r), more);
+            lookAt(r);
+            return kind.likes(r, texts.said(law, LIKES, names), more);
         }
 
         /** How one likes a room times how much of it one keeps. */
         int keptOf(int r, boolean first, boolean last) {
-            int liked = liked(r);
-            return liked * kind.keeps(said(KEEPS, r), liked, more, first, last);
+            lookAt(r);
+            int liked = kind.likes(r, texts.said(law, LIKES, names), more);
+            return liked * kind.keeps(texts.said(law, KEEPS, names), liked, more, first, last);
         }
 
         int mind() {
@@ -909,11 +918,13 @@ public final class FlatToLet {
         }
 
         int offer() {
-            return kind.offers(said(OFFERS, 0), mind(), crowd);
+            int inMind = mind();
+            lookAtNoRoom();
+            return kind.offers(texts.said(law, OFFERS, names), inMind, crowd);
         }
     }
 
-    /** Texts as steps for a stack: a number from 0 on puts itself there, any other step is a token below 0. */
+    /** Texts as steps for a stack, each a token: a number or a name puts a value there, any other joins what is. */
     private static final class Texts {
         private final int[] steps = new int[TEXTS * TAPE];
         /** By text and part: the place behind its last step. */
@@ -934,7 +945,7 @@ public final class FlatToLet {
             if (!within(count, TEXTS) || written >= (count + 1) * TAPE) return false;
             set(steps, written, step);
             written++;
-            if (isName(-step)) names |= 1 << -step;
+            if (isName(step)) names |= 1 << (LIGHT - step);
             return true;
         }
 
@@ -946,60 +957,61 @@ public final class FlatToLet {
 
         boolean mindNames(int t, int name) {
             int some = at(named, t * PARTS + LIKES) | at(named, t * PARTS + KEEPS);
-            return (some >> name & 1) != 0;
+            return ((some >> (LIGHT - name)) & 1) != 0;
         }
 
         static boolean isName(int token) {
-            return token >= LIGHT && token <= RICH;
+            return token <= LIGHT && token >= RICH;
         }
 
-        int value(int t, int part, int[] values) {
+        /** What a part of a text says, in its bounds; values are those of the names. */
+        int said(int t, int part, int[] values) {
             int from = part == LIKES ? t * TAPE : at(ends, t * PARTS + part - 1);
             int end = at(ends, t * PARTS + part);
             int top = -1;
             for (int i = from; i < end; i++) {
                 int step = at(steps, i);
-                if (step >= 0) {
+                if (step >= 0 || isName(step)) {
                     top++;
-                    set(stack, top, step);
-                } else if (isName(-step)) {
-                    top++;
-                    set(stack, top, at(values, -step - LIGHT));
-                } else if (step == -NOT) {
+                    set(stack, top, step >= 0 ? step : at(values, LIGHT - step));
+                } else if (step == NOT) {
                     set(stack, top, at(stack, top) == 0 ? 1 : 0);
-                } else if (step == -NEGATE) {
+                } else if (step == NEGATE) {
                     set(stack, top, -at(stack, top));
                 } else {
                     top--;
-                    set(stack, top, joined(-step, at(stack, top), at(stack, top + 1)));
+                    set(stack, top, joined(step, at(stack, top), at(stack, top + 1)));
                 }
             }
-            return at(stack, 0);
+            int value = at(stack, 0);
+            if (part == LIKES) return bound(value, -99, 99);
+            return bound(value, 0, part == KEEPS ? 9 : RICHES - 1);
         }
 
         private static int joined(int token, int a, int b) {
             switch (token) {
-                case '+': return a + b;
-                case '-': return a - b;
-                case '*': return a * b;
-                case '<': return a < b ? 1 : 0;
-                case '=': return a == b ? 1 : 0;
+                case -'+': return a + b;
+                case -'-': return a - b;
+                case -'*': return a * b;
+                case -'<': return a < b ? 1 : 0;
+                case -'=': return a == b ? 1 : 0;
                 case AND: return a != 0 && b != 0 ? 1 : 0;
                 default: return a != 0 || b != 0 ? 1 : 0;
             }
         }
     }
 
-    /** Reads the tape, token by token, into the next of the texts. */
+    /** Reads the tape into the next of the texts: first all tokens, as they stand, then what they tell. */
     private static final class Reader {
         private final int[] tape = new int[TAPE];
         int size;
         private final Texts texts;
-        /** The token in sight, its first byte, the first byte behind it, and what it is worth as a number. */
+        private final int[] tokens = new int[TAPE + 1];
+        private final int[] places = new int[TAPE + 1];
+        private int known;
+        /** The token in sight, and which it is. */
         private int token;
-        private int from;
-        private int behind;
-        private int number;
+        private int seen;
 
         Reader(Texts texts) {
             this.texts = texts;
@@ -1011,106 +1023,43 @@ public final class FlatToLet {
             size++;
         }
 
-        /** The place of the fault, or -1. Nothing is read past the first token that can't stand. */
+        /** The place of the fault, or -1. No token behind the first that can't stand is ever in sight. */
         int fault() {
-            texts.start();
-            behind = 0;
+            findTokens();
+            seen = -1;
             advance();
+            texts.start();
             boolean good = readPart(WORD_LIKES, LIKES) && readPart(WORD_KEEPS, KEEPS)
                 && readPart(WORD_OFFERS, OFFERS) && token == END;
-            return good ? -1 : from;
+            return good ? -1 : at(places, seen);
         }
 
-        private boolean readPart(int word, int part) {
-            if (!passed(word) || !readOr(0) || !passed(';')) return false;
-            texts.endPart(part);
-            return true;
-        }
+        // -- the tokens
 
-        private boolean passed(int wanted) {
-            if (token != wanted) return false;
-            advance();
-            return true;
-        }
-
-        private boolean readOr(int open) {
-            boolean good = readAnd(open);
-            for (int n = 0; n < TAPE && good && passed(OR); n++) {
-                good = readAnd(open) && texts.add(-OR);
+        private void findTokens() {
+            known = 0;
+            int i = 0;
+            while (i < size) {
+                int from = i;
+                int b = at(tape, from);
+                i++;
+                if (isLetter(b)) {
+                    while (i < size && isLetter(at(tape, i))) i++;
+                    note(word(from, i), from);
+                } else if (isDigit(b)) {
+                    while (i < size && isDigit(at(tape, i))) i++;
+                    note(number(from, i), from);
+                } else if (b != ' ' && b != '\n') {
+                    note(isSign(b) ? -b : WRONG, from);
+                }
             }
-            return good;
+            note(END, size);
         }
 
-        private boolean readAnd(int open) {
-            boolean good = readNot(open);
-            for (int n = 0; n < TAPE && good && passed(AND); n++) {
-                good = readNot(open) && texts.add(-AND);
-            }
-            return good;
-        }
-
-        private boolean readNot(int open) {
-            if (token == NOT) {
-                if (open >= DEPTH) return false;
-                advance();
-                return readNot(open + 1) && texts.add(-NOT);
-            }
-            if (!readSum(open)) return false;
-            int sign = token;
-            if (sign != '<' && sign != '=') return true;
-            advance();
-            return readSum(open) && texts.add(-sign);
-        }
-
-        private boolean readSum(int open) {
-            boolean good = readTerm(open);
-            for (int n = 0; n < TAPE && good && (token == '+' || token == '-'); n++) {
-                int sign = token;
-                advance();
-                good = readTerm(open) && texts.add(-sign);
-            }
-            return good;
-        }
-
-        private boolean readTerm(int open) {
-            boolean good = readOne(open);
-            for (int n = 0; n < TAPE && good && passed('*'); n++) {
-                good = readOne(open) && texts.add(-'*');
-            }
-            return good;
-        }
-
-        private boolean readOne(int open) {
-            if (token == NUMBER || Texts.isName(token)) {
-                int step = token == NUMBER ? number : -token;
-                advance();
-                return texts.add(step);
-            }
-            if (open >= DEPTH) return false;
-            if (passed('-')) return readOne(open + 1) && texts.add(-NEGATE);
-            return passed('(') && readOr(open + 1) && passed(')');
-        }
-
-        private void advance() {
-            from = behind;
-            while (from < size && isBlank(at(tape, from))) from++;
-            behind = from;
-            if (from >= size) {
-                token = END;
-            } else if (isLetter(at(tape, from))) {
-                while (behind < size && isLetter(at(tape, behind))) behind++;
-                token = word();
-            } else if (isDigit(at(tape, from))) {
-                while (behind < size && isDigit(at(tape, behind))) behind++;
-                token = numberToken();
-            } else {
-                behind = from + 1;
-                token = sign(at(tape, from));
-            }
-        }
-
-        private static boolean isBlank(int b) {
-            return b == ' ' || b == '\n';
+        private void note(int found, int place) {
+            set(tokens, known, found);
+            set(places, known, place);
+            known++;
         }
 
         private static boolean isLetter(int b) {
@@ -1121,43 +1070,120 @@ public final class FlatToLet {
             return b >= '0' && b <= '9';
         }
 
-        private int sign(int b) {
+        private static boolean isSign(int b) {
             switch (b) {
-                case '(': case ')': case ';': case '+': case '-': case '*': case '<': case '=': return b;
-                default: return WRONG;
+                case '(': case ')': case ';': case '+': case '-': case '*': case '<': case '=': return true;
+                default: return false;
             }
         }
 
-        private int numberToken() {
-            if (behind - from > DIGITS) return WRONG;
-            number = 0;
-            for (int i = from; i < behind; i++) {
-                number = 10 * number + at(tape, i) - '0';
+        private int number(int from, int end) {
+            if (end - from > DIGITS) return WRONG;
+            int value = 0;
+            for (int i = from; i < end; i++) {
+                value = 10 * value + at(tape, i) - '0';
             }
-            return NUMBER;
+            return value;
         }
 
-        private int word() {
-            if (spells("likes")) return WORD_LIKES;
-            if (spells("keeps")) return WORD_KEEPS;
-            if (spells("offers")) return WORD_OFFERS;
-            if (spells("or")) return OR;
-            if (spells("and")) return AND;
-            if (spells("not")) return NOT;
-            if (spells("light")) return LIGHT;
-            if (spells("damp")) return DAMP;
-            if (spells("room")) return ROOM;
-            if (spells("hour")) return HOUR;
-            if (spells("crowd")) return CROWD;
-            return spells("rich") ? RICH : WRONG;
+        private int word(int from, int end) {
+            if (spells("likes", from, end)) return WORD_LIKES;
+            if (spells("keeps", from, end)) return WORD_KEEPS;
+            if (spells("offers", from, end)) return WORD_OFFERS;
+            if (spells("or", from, end)) return OR;
+            if (spells("and", from, end)) return AND;
+            if (spells("not", from, end)) return NOT;
+            if (spells("light", from, end)) return LIGHT;
+            if (spells("damp", from, end)) return DAMP;
+            if (spells("room", from, end)) return ROOM;
+            if (spells("hour", from, end)) return HOUR;
+            if (spells("crowd", from, end)) return CROWD;
+            return spells("rich", from, end) ? RICH : WRONG;
         }
 
-        private boolean spells(String word) {
-            if (behind - from != word.length()) return false;
+        private boolean spells(String word, int from, int end) {
+            if (end - from != word.length()) return false;
             for (int i = 0; i < word.length(); i++) {
                 if (at(tape, from + i) != word.charAt(i)) return false;
             }
             return true;
+        }
+
+        // -- what they tell; each call says whether all tokens could stand
+
+        private void advance() {
+            if (seen + 1 < known) seen++;
+            token = at(tokens, seen);
+        }
+
+        private boolean passed(int wanted) {
+            if (token != wanted) return false;
+            advance();
+            return true;
+        }
+
+        private boolean readPart(int word, int part) {
+            if (!passed(word) || !readOr(0) || !passed(-';')) return false;
+            texts.endPart(part);
+            return true;
+        }
+
+        private boolean readOr(int open) {
+            boolean good = readAnd(open);
+            for (int n = 0; n < TAPE && good && passed(OR); n++) {
+                good = readAnd(open) && texts.add(OR);
+            }
+            return good;
+        }
+
+        private boolean readAnd(int open) {
+            boolean good = readNot(open);
+            for (int n = 0; n < TAPE && good && passed(AND); n++) {
+                good = readNot(open) && texts.add(AND);
+            }
+            return good;
+        }
+
+        private boolean readNot(int open) {
+            if (token == NOT) {
+                if (open >= DEPTH) return false;
+                advance();
+                return readNot(open + 1) && texts.add(NOT);
+            }
+            if (!readSum(open)) return false;
+            int sign = token;
+            if (sign != -'<' && sign != -'=') return true;
+            advance();
+            return readSum(open) && texts.add(sign);
+        }
+
+        private boolean readSum(int open) {
+            boolean good = readTerm(open);
+            for (int n = 0; n < TAPE && good && (token == -'+' || token == -'-'); n++) {
+                int sign = token;
+                advance();
+                good = readTerm(open) && texts.add(sign);
+            }
+            return good;
+        }
+
+        private boolean readTerm(int open) {
+            boolean good = readOne(open);
+            for (int n = 0; n < TAPE && good && passed(-'*'); n++) {
+                good = readOne(open) && texts.add(-'*');
+            }
+            return good;
+        }
+
+        private boolean readOne(int open) {
+            int step = token;
+            if (step >= 0 || Texts.isName(step)) {
+                advance();
+                return texts.add(step);
+            }
+            if (open >= DEPTH) return false;
+            if (passed(-'-')) return readOne(open + 1) && texts.add(NEGATE);
+            return passed(-'(') && readOr(open + 1) && passed(-')');
         }
     }
 
@@ -1202,15 +1228,17 @@ public final class FlatToLet {
         }
 
         void move(int s, int i, int other, int j, int n) {
-            if (!has(s, i, n) || !has(other, j, n)) return;
-            System.arraycopy(cells, s * CELLS + i, cells, other * CELLS + j, n);
+            int from = s * CELLS + i;
+            int to = other * CELLS + j;
+            if (from < 0 || to < 0 || n < 0 || n > cells.length - from || n > cells.length - to) return;
+            System.arraycopy(cells, from, cells, to, n);
         }
 
         boolean tellsTour(int s) {
             int told = 0;
             for (int i = 0; i < size(s); i++) {
                 int r = read(s, i);
-                if (!within(r, ROOMS) || (told >> r & 1) != 0) return false;
+                if (!within(r, ROOMS) || ((told >> r) & 1) != 0) return false;
                 told |= 1 << r;
             }
             return true;

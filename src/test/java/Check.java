@@ -1,0 +1,63 @@
+/** Counts answers that are not as due; every test of the project ends by end(). */
+final class Check {
+    private int wrong;
+    private int asked;
+
+    void due(String call, long got, long want) {
+        asked++;
+        if (got == want) return;
+        wrong++;
+        System.out.println(call + " answered " + got + ", due is " + want);
+    }
+
+    void that(String what, boolean holds) {
+        due(what, holds ? 1 : 0, 1);
+    }
+
+    void end() {
+        System.out.println(asked + " answers, " + wrong + " not as due");
+        if (wrong != 0) System.exit(1);
+    }
+
+    /** Feeds a text byte by byte in fives; the text's answer. */
+    static int read(FlatToLet x, String text) {
+        feed(x, text);
+        return x.text();
+    }
+
+    static void feed(FlatToLet x, String text) {
+        for (int i = 0; i < text.length(); i += 5) {
+            int n = Math.min(5, text.length() - i);
+            x.feed(n, byteAt(text, i), byteAt(text, i + 1), byteAt(text, i + 2), byteAt(text, i + 3), byteAt(text, i + 4));
+        }
+    }
+
+    private static int byteAt(String text, int i) {
+        return i < text.length() ? text.charAt(i) : 0;
+    }
+
+    /** A text is read and is the law from then on. */
+    static void law(FlatToLet x, String text) {
+        x.force(read(x, text));
+    }
+
+    /** A sheet of a sort becomes these numbers. */
+    static void sheet(FlatToLet x, int s, int sort, int... cells) {
+        x.sheet(s, sort, cells.length);
+        for (int i = 0; i < cells.length; i++) {
+            x.cell(s, i, cells[i]);
+        }
+    }
+
+    static void lights(FlatToLet x, int... lights) {
+        for (int r = 0; r < lights.length; r++) {
+            x.room(r, 0, lights[r]);
+        }
+    }
+
+    static void damps(FlatToLet x, int... damps) {
+        for (int r = 0; r < damps.length; r++) {
+            x.room(r, 1, damps[r]);
+        }
+    }
+}
