@@ -803,9 +803,10 @@ public final class FlatToLet {
         private int more;
         private int crowd;
         private int law;
-        private int mind;
-        /** Many questions change only what the mind does not hang on: it is counted anew only where it may differ. */
-        private boolean mindKnown;
+        private int hour;
+        /** Minds by hours, and bits of those known: they are counted anew only where a change may make them differ. */
+        private final int[] minds = new int[HOURS];
+        private int known;
 
         Visit(Texts texts) {
             this.texts = texts;
@@ -816,9 +817,9 @@ public final class FlatToLet {
                 set(light, r, at(state.light, r));
                 set(damp, r, at(state.damp, r));
             }
-            setName(HOUR, state.hour);
+            setHour(state.hour);
             law = state.law;
-            mindKnown = false;
+            known = 0;
         }
 
         /** The tour is the first n of an order, but for the one at the place left out (if there is such a place). */
@@ -829,48 +830,48 @@ public final class FlatToLet {
                 set(walked, length, at(rooms, i));
                 length++;
             }
-            mindKnown = false;
+            known = 0;
         }
 
         void setKind(Viewer to) {
             if (to != null) kind = to;
-            mindKnown = false;
+            known = 0;
         }
 
         void setMore(int to) {
             more = to;
-            mindKnown = false;
+            known = 0;
         }
 
         void setCrowd(int to) {
             crowd = to;
             setName(CROWD, to);
-            mindKnown = false;
+            known = 0;
         }
 
         void setLaw(int to) {
             law = to;
-            mindKnown = false;
+            known = 0;
         }
 
         void setLight(int r, int to) {
             set(light, r, to);
-            mindKnown = false;
+            known = 0;
         }
 
         void setDamp(int r, int to) {
             set(damp, r, to);
-            mindKnown = false;
+            known = 0;
         }
 
         void setRich(int to) {
             setName(RICH, to);
-            if (texts.mindNames(law, RICH)) mindKnown = false;
+            if (texts.mindNames(law, RICH)) known = 0;
         }
 
         void setHour(int to) {
+            hour = to;
             setName(HOUR, to);
-            if (texts.mindNames(law, HOUR)) mindKnown = false;
         }
 
         private void setName(int name, int to) {
@@ -907,13 +908,14 @@ public final class FlatToLet {
         }
 
         int mind() {
-            if (!mindKnown) {
-                mind = 0;
-                for (int i = 0; i < length; i++) {
-                    mind += keptOf(at(walked, i), i == 0, i == length - 1);
-                }
-                mindKnown = true;
+            int h = texts.mindNames(law, HOUR) ? hour : 0;
+            if (((known >> h) & 1) != 0) return at(minds, h);
+            int mind = 0;
+            for (int i = 0; i < length; i++) {
+                mind += keptOf(at(walked, i), i == 0, i == length - 1);
             }
+            set(minds, h, mind);
+            known |= 1 << h;
             return mind;
         }
 

@@ -227,6 +227,9 @@ public final class BestTest {
         waits(x, 6, 1, 137, 360);
         waits(x, 6, 2, 77, 180);
         waits(x, 6, 5, 1, 6);
+        x.put(0, 0, 0);
+        // Whom nobody is ahead of offers more than all ahead, be it nothing.
+        waits(x, 2, 0, 1, 2);
         FlatToLet y = flat();
         y.viewer(0, 500);
         y.viewer(0, 100);

@@ -51,7 +51,7 @@ final class Model {
     }
 
     /** The place of the fault, or -1: what may follow is known by what was ahead and by what is open. */
-    private static int fault(String text) {
+    static int fault(String text) {
         List<Token> all = tokens(text);
         int part = 0;
         // what is due: "key", "any" (a not, too), "one" (no not), "sign"

@@ -151,6 +151,8 @@ public final class TextTest {
         fault("", 0);
         fault("  ", 2);
         fault(good + " 2", 31);
+        fault(good + " 0", 31);
+        fault(good + "#", 30);
         fault(good + ";", 30);
         fault(good + "likes", 30);
         fault("keeps 1 ;", 0);
@@ -178,6 +180,8 @@ public final class TextTest {
         fault("likes 1 and ;", 12);
         fault("likes 1 or or 1 ;", 11);
         fault("likes 1 ( 2 )", 8);
+        fault("likes 1 offers 2 ;", 8);
+        fault("likes offers 2 ;", 6);
         fault("likes ( ) ;", 8);
         fault("likes likes ;", 6);
         fault("likes keeps ;", 6);
@@ -185,6 +189,13 @@ public final class TextTest {
         fault("likes lights ;", 6);
         fault("likes ligh ;", 6);
         fault("likes notlight ;", 6);
+        fault("likes lightz ;", 6);
+        fault("likes lighta ;", 6);
+        fault("likes zlight ;", 6);
+        fault("likes xight ;", 6);
+        fault("likes 1 xr 2 ;", 8);
+        fault("likes 1 ; offers 1 ;", 10);
+        fault("likes 1 ; keeps 1 ; keeps 1 ;", 20);
         fault("likes 12345 ;", 6);
         fault("likes 00001 ;", 6);
         fault("likes 1 + 12345678901 ;", 10);

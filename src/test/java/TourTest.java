@@ -89,6 +89,8 @@ public final class TourTest {
         check.due("couple, 10 less 18", tour(x, couple, 1, 2, 0), -8);
         check.due("doctor, 10 less 18, the text not below 0", tour(x, doctor, 1, 2, 0), -8);
         x.room(0, 0, 0);
+        check.due("couple, 0 less 18", tour(x, couple, 1, 2, 0), -18);
+        check.due("doctor, 0 less 18, the text not below 0", tour(x, doctor, 1, 2, 0), -18);
         check.due("pensioner of 0: as a student", tour(x, pensioner, 1, 0, 0), 0);
         x.room(1, 0, 10);
         x.room(1, 1, 11);
