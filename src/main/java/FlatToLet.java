@@ -715,7 +715,8 @@ public final class FlatToLet {
 
     private static class Couple extends Viewer {
         int likes(int room, int said, int more) {
-            return room == 0 ? Math.max(-99, said - 2 * more) : said;
+            int liked = room == 0 ? said - 2 * more : said;
+            return liked < -99 ? -99 : liked;
         }
 
         int keeps(int said, int liked, int more, boolean first, boolean last) {
@@ -845,7 +846,7 @@ public final class FlatToLet {
 
         void setCrowd(int to) {
             crowd = to;
-            setName(CROWD, to);
+            set(names, LIGHT - CROWD, to);
             known = 0;
         }
 
@@ -865,29 +866,25 @@ public final class FlatToLet {
         }
 
         void setRich(int to) {
-            setName(RICH, to);
+            set(names, LIGHT - RICH, to);
             if (texts.mindNames(law, RICH)) known = 0;
         }
 
         void setHour(int to) {
             hour = to;
-            setName(HOUR, to);
-        }
-
-        private void setName(int name, int to) {
-            set(names, LIGHT - name, to);
+            set(names, LIGHT - HOUR, to);
         }
 
         private void lookAt(int r) {
-            setName(LIGHT, at(light, r));
-            setName(DAMP, at(damp, r));
-            setName(ROOM, r);
+            set(names, LIGHT - LIGHT, at(light, r));
+            set(names, LIGHT - DAMP, at(damp, r));
+            set(names, LIGHT - ROOM, r);
         }
 
         private void lookAtNoRoom() {
-            setName(LIGHT, 0);
-            setName(DAMP, 0);
-            setName(ROOM, 0);
+            set(names, LIGHT - LIGHT, 0);
+            set(names, LIGHT - DAMP, 0);
+            set(names, LIGHT - ROOM, 0);
         }
 
         int said(int part, int r) {
