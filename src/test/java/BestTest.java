@@ -234,6 +234,9 @@ public final class BestTest {
         y.viewer(0, 500);
         y.viewer(0, 100);
         y.viewer(0, 500);
+        Check.law(y, "likes 1 ; keeps 1 ; offers rich*(crowd=1) ;");
+        waits(y, 2, 0, 1, 2);
+        y.force(0);
         // More than all ahead, not as much: 5 5 1 and its twin take the 1.
         waits(y, 3, 1, 2, 3);
         waits(y, 3, 0, 2, 3);

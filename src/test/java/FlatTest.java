@@ -123,6 +123,7 @@ public final class FlatTest {
         check.due("likes, room 5", x.asks(0, 0, 5, 1), 51);
         check.due("keeps", x.asks(1, 0, 0, 3), 8);
         check.due("keeps, bound", x.asks(1, 0, 0, 8), 9);
+        check.due("likes, room 2, once more", x.asks(0, 0, 2, 8), 28);
         check.due("offers, light, damp, room 0", x.asks(2, 0, 2, 4), 331);
         x.hours(11);
         check.due("keeps, hour", x.asks(1, 0, 0, 3), 3);

@@ -71,6 +71,9 @@ public final class LotsTest {
                 check.due("in lowest terms", java.math.BigInteger.valueOf(a).gcd(java.math.BigInteger.valueOf(b)).intValue(), 1);
             }
         }
+        Check.law(x, "likes 1 ; keeps 1 ; offers (crowd=1)*5 ;");
+        check.due("alone", x.odds(0, 7, 5, 0), 1);
+        x.force(0);
         check.that("past 99999", x.odds(99999, 40, 10001, 1) > 0);
         for (int part = 0; part < 2; part++) {
             for (int seed : new int[] {-1, 100000, MIN, MAX}) check.due("seed", x.odds(seed, 1, 0, part), NO);

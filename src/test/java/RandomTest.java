@@ -1,6 +1,6 @@
 import java.util.Random;
 
-/** Runs of 512 random calls, each answered by the class and by Model; the seeds are fixed. */
+/** Runs of 512 random calls, each answered by the class and by Model; the seeds are fixed (how many may be told). */
 public final class RandomTest {
     private static final int RUNS = 400, CALLS = 512;
 
@@ -19,7 +19,8 @@ public final class RandomTest {
 
     public static void main(String[] args) {
         Check check = new Check();
-        for (int run = 0; run < RUNS; run++) {
+        int runs = args.length > 0 ? Integer.parseInt(args[0]) : RUNS;
+        for (int run = 0; run < runs; run++) {
             new RandomTest(run, check).go();
         }
         check.end();

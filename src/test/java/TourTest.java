@@ -76,6 +76,9 @@ public final class TourTest {
         check.due("cat, another last", tour(x, cat, 1, 2, 1, 0), 0);
         check.due("cat, not its room", tour(x, cat, 1, 0, 0, 2, 3, 4, 5), 0);
         check.due("cat, offer", tour(x, cat, 8, 1, 1), 0);
+        int other = x.viewer(59, 20000);
+        check.due("cat of more 9, room 3", tour(x, other, 1, 0, 0, 1, 3), 99);
+        check.due("cat of more 9, not room 1", tour(x, other, 1, 0, 0, 1, 2), 0);
     }
 
     private static void bounds() {
@@ -114,6 +117,16 @@ public final class TourTest {
         check.due("last, at another hour", tour(x, 0, 8, 2, 2, 1), 18);
         x.put(0, 0, 300);
         check.due("last, richer", tour(x, 0, 8, 2, 2, 1), 19);
+        Check.lights(x, 9, 9, 9, 9, 9, 9);
+        Check.damps(x, 8, 8, 8, 8, 8, 8);
+        Check.law(x, "likes 1 ; keeps 1 ; offers 1+light ;");
+        check.due("offers see no light", tour(x, 0, 8, 1, 2, 1), 1);
+        Check.law(x, "likes 1 ; keeps 1 ; offers 1+damp ;");
+        check.due("offers see no damp", tour(x, 0, 8, 1, 2, 1), 1);
+        Check.law(x, "likes 1 ; keeps 1 ; offers 1+room ;");
+        check.due("offers see no room", tour(x, 0, 8, 1, 2, 1), 1);
+        Check.lights(x, 0, 0, 0, 0, 0, 0);
+        Check.damps(x, 0, 0, 0, 0, 0, 0);
         x.force(0);
         check.due("last, by the first text", tour(x, 0, 8, 2, 2, 1), 0);
     }
