@@ -3,7 +3,6 @@ public final class FaultTest {
     private static final String[] TOKENS = {"1", "light", "(", ")", "-", "+", "*", "<", "=", "and", "or", "not", ";",
         "likes", "keeps", "offers", "x", "12345", "#"};
     private static final Check check = new Check();
-    private static final FlatToLet x = new FlatToLet();
 
     public static void main(String[] args) {
         behind("likes ", 4);
@@ -28,6 +27,6 @@ public final class FaultTest {
     private static void fault(String text) {
         int place = Model.fault(text);
         if (place < 0) return;
-        check.due(text, Check.read(x, text), -100 - place);
+        check.due(text, Check.read(new FlatToLet(), text), -100 - place);
     }
 }

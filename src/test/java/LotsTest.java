@@ -53,20 +53,26 @@ public final class LotsTest {
         for (int what : new int[] {-1, 3, MIN, MAX}) check.due("what", x.drawn(0, 0, what), -1000007);
     }
 
-    private static void odds() {
+    private static FlatToLet flatOfTwo() {
         FlatToLet x = flat();
         x.viewer(0, 20000);
         x.viewer(35, 20000);
+        return x;
+    }
+
+    private static void odds() {
+        FlatToLet x = flatOfTwo();
         check.due("always", x.odds(0, 40, 200, 0), 1);
         check.due("always", x.odds(0, 40, 200, 1), 1);
         check.due("never", x.odds(0, 40, 201, 0), 0);
         check.due("never, below the line", x.odds(0, 40, 201, 1), 1);
         check.due("0 or more", x.odds(99999, 1, 0, 0), 1);
         for (int least = 0; least < 400; least += 7) {
+            FlatToLet y = flatOfTwo();
             for (int seeds = 1; seeds <= 40; seeds += 13) {
                 int above = 0;
-                for (int k = 0; k < seeds; k++) if (x.drawn(300 + k, 1, 2) >= least) above++;
-                long a = x.odds(300, seeds, 10000 + least, 0), b = x.odds(300, seeds, 10000 + least, 1);
+                for (int k = 0; k < seeds; k++) if (y.drawn(300 + k, 1, 2) >= least) above++;
+                long a = y.odds(300, seeds, 10000 + least, 0), b = y.odds(300, seeds, 10000 + least, 1);
                 check.due("odds of " + least + " by " + seeds, a * seeds, b * above);
                 check.due("in lowest terms", java.math.BigInteger.valueOf(a).gcd(java.math.BigInteger.valueOf(b)).intValue(), 1);
             }

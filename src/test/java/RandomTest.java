@@ -28,6 +28,7 @@ public final class RandomTest {
 
     private void due(String call, long got, long want) {
         calls++;
+        if (calls > CALLS) return;
         check.due("run " + run + ", call " + calls + ": " + call, got, want);
     }
 
