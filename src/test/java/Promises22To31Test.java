@@ -7,6 +7,7 @@ public final class Promises22To31Test {
 
     public static void main(String[] args) {
         judge();
+        judgeMinds();
         judgeSheets();
         kinds();
         more();
@@ -59,6 +60,39 @@ public final class Promises22To31Test {
         Check.sheet(x, 1, 2, 0, 0, 1);
         check.due("no room: nothing offered", x.judge(0, 1, 0), 2);
         check.due("one sheet tells both", x.judge(0, 0, 0), -1);
+    }
+
+    /** What is in mind at each hour: a doctor's offer is that, if it is above 0. */
+    private static void judgeMinds() {
+        check.says("Promise 22", "what a VIEWER OFFERS by it, ALONE, were THE HOUR 0, 1, .. (12 at most)");
+        String[] texts = {"likes hour-3;keeps 2;offers 0;", "likes 5;keeps hour-3;offers 0;", "likes hour-1;keeps hour-3;offers hour;",
+            "likes 6-hour;keeps 7-hour;offers 0;", "likes 5;keeps 2;offers hour;"};
+        int[][] due = {
+            {0, 0, 0, 0, 4, 8, 12, 16, 20, 24, 28, 32},
+            {0, 0, 0, 0, 10, 20, 30, 40, 50, 60, 70, 80},
+            {0, 0, 0, 0, 6 + 4, 16 + 5, 30 + 6, 48 + 7, 70 + 8, 96 + 9, 126 + 10, 160 + 11},
+            {2 * 42, 2 * 30, 2 * 20, 2 * 12, 2 * 6, 2 * 2, 0, 0, 0, 0, 0, 0},
+            {20, 21, 22, 23, 24, 25, 26, 27, 28, 29, 30, 31},
+        };
+        FlatToLet x = new FlatToLet();
+        x.viewer(30, 0);
+        Check.sheet(x, 0, 2, 1);
+        for (int t = 1; t <= 5; t++) Check.read(x, texts[t - 1]);
+        for (int t = 5; t >= 1; t--) {
+            x.force(t);
+            Check.sheet(x, 1, 2, due[t - 1]);
+            check.due("text " + t, x.judge(0, 1, 0), -1);
+            check.due("text " + t + ": laws", x.laws(0, 1, 0), 1 << t);
+            check.due("text " + t + ": kinds", x.kinds(0, 1, 0, 0), 0b001000);
+            check.due("text " + t + ": another room's light", x.rooms(0, 1, 0, 0), 100);
+            check.due("text " + t + ": film", x.film(0, 2, 0), due[t - 1][6]);
+            for (int h = 0; h < 12; h++) {
+                x.cell(1, h, due[t - 1][h] + 1);
+                check.due("text " + t + ", otherwise at " + h, x.judge(0, 1, 0), h);
+                check.due("text " + t + ", laws", x.laws(0, 1, 0), 0);
+                x.cell(1, h, due[t - 1][h]);
+            }
+        }
     }
 
     private static void judgeSheets() {
@@ -149,6 +183,20 @@ public final class Promises22To31Test {
         Check.law(x, "likes 1;keeps 1;offers (not rich<300)*7;");
         check.due("from 300 on", x.riches(0, 1, 0, 0), 700);
         check.due("from 300 on", x.riches(0, 1, 0, 1), 300);
+        // What is in mind may be by how rich one is.
+        FlatToLet y = Check.under("likes rich-300;keeps 1;offers 7;");
+        y.viewer(0, 0);
+        Check.sheet(y, 0, 2, 1);
+        Check.sheet(y, 1, 2, 7, 7);
+        check.due("liked from 301 on", y.riches(0, 1, 0, 0), 699);
+        check.due("liked from 301 on", y.riches(0, 1, 0, 1), 301);
+        Check.law(y, "likes 1;keeps 4-rich;offers 7;");
+        check.due("kept to 3", y.riches(0, 1, 0, 0), 4);
+        check.due("kept to 3", y.riches(0, 1, 0, 1), 0);
+        Check.law(y, "likes rich-hour-300;keeps rich-299;offers 7;");
+        Check.sheet(y, 1, 2, 7, 0);
+        check.due("liked at 0, not at 1", y.riches(0, 1, 0, 0), 1);
+        check.due("liked at 0, not at 1", y.riches(0, 1, 0, 1), 301);
         check.says("Promise 24", "BAD, -11, BAD, -5 likewise; -7: what.");
         for (int what : new int[] {-1, 2, MIN, MAX}) check.due("what " + what, x.riches(0, 1, 0, what), -7);
     }
@@ -388,6 +436,14 @@ public final class Promises22To31Test {
         odds(full, 0, 1, 70000, 1, 1);
         odds(full, 0, 1, 79999, 0, 1);
         check.due("a ninth", full.odds(0, 1, 80000, 0), NO);
+        FlatToLet last = Check.under("likes 1;keeps 1;offers rich;");
+        for (int v = 0; v < 8; v++) last.viewer(0, 100 * v);
+        for (int v = 0; v < 8; v++) {
+            odds(last, 0, 3, 10000 * v, 1, 1);
+            odds(last, 0, 3, 10000 * v + v, 1, 1);
+            odds(last, 0, 3, 10000 * v + v + 1, 0, 1);
+            odds(last, 0, 3, 10000 * v + 9999, 0, 1);
+        }
     }
 
     /** The first of the order by a seed: by each lot the room at place 0 may go, if the lot's place is 0. */

@@ -71,11 +71,43 @@ public final class Promises32To36Test {
         }
         check.due("as it was", size(y, 1), 3);
         for (int i = 0; i < 3; i++) check.due("as it was", number(y, 1, 1, i), 4 + i);
+        allFull();
         for (int n : new int[] {MIN, -1, 0, 1, 40, 41, MAX}) {
             check.due("a row", y.sheet(1, 0, 2), 1);
             check.due("missing, n " + n, y.sheet(1, -1, n), 1);
             check.due("nothing there", y.cell(1, 0, 0), NOTHING);
             check.due("missing once more", y.sheet(1, -1, n), 1);
+        }
+    }
+
+    /** Four sheets of forty numbers, each its own. */
+    private static void allFull() {
+        FlatToLet x = new FlatToLet();
+        check.due("an image of nobody", x.image(), 0);
+        for (int s = 0; s < 4; s++) {
+            x.sheet(s, 2, 40);
+            for (int i = 0; i < 40; i++) x.cell(s, i, 60 * i % 41 + 10000 * s);
+            if (s > 0) x.cell(s, 0, s);
+        }
+        for (int s = 0; s < 4; s++) {
+            x.cell(s, 38, 50 + s);
+            x.cell(s, 39, 99990 + s);
+        }
+        for (int s = 0; s < 4; s++) {
+            x.viewersBy(s, 2, 0, 1);
+            is(x, 0, s, 60 % 41 + 10000 * s);
+            x.back();
+            x.viewersBy(s, 2, 38, 1);
+            is(x, 0, 50 + s, 99990 + s);
+            x.back();
+        }
+        for (int s = 3; s > 0; s--) {
+            int from = s - 1;
+            check.due("the last", x.copy(s, 39, from, 39, 1), 1);
+            check.due("all but the first", x.copy(from, 1, s, 1, 39), 39);
+            x.viewersBy(s, 2, 38, 1);
+            is(x, 0, 50 + from, 99993);
+            x.back();
         }
     }
 

@@ -1,3 +1,6 @@
+import java.util.ArrayList;
+import java.util.List;
+
 /** "Terms" 1, sentence by sentence: the tape, tokens, the grammar, values, faults, texts. */
 public final class Terms1TextTest {
     private static final int FULL = FlatToLet.FULL;
@@ -361,6 +364,16 @@ public final class Terms1TextTest {
             fault(word + " 1;", 0);
         }
         for (String key : new String[] {"likes", "keeps", "offers", "or", "and"}) faultOf("1 + " + key, 4);
+        for (String name : new String[] {"light", "damp", "room", "hour", "crowd", "rich"}) {
+            faultOf("1 + " + name, -1);
+            for (String other : otherwise(name)) faultOf("1 + " + other, 4);
+        }
+        for (String other : otherwise("likes")) fault(other + " 1;keeps 1;offers 1;", 0);
+        for (String other : otherwise("keeps")) fault("likes 1;" + other + " 1;offers 1;", 8);
+        for (String other : otherwise("offers")) fault("likes 1;keeps 1;" + other + " 1;", 16);
+        for (String other : otherwise("or")) faultOf("1 " + other + " 1", 2);
+        for (String other : otherwise("and")) faultOf("1 " + other + " 1", 2);
+        for (String other : otherwise("not")) faultOf(other + " 1", 0);
         check.says("Terms 1", "a NUMBER that is too long,");
         faultOf("9999", -1);
         faultOf("10000", 0);
@@ -375,6 +388,16 @@ public final class Terms1TextTest {
         FlatToLet x = new FlatToLet();
         Check.read(x, text);
         return 10 * x.count(2) + x.count(4);
+    }
+
+    /** The word with one letter otherwise, or one less. */
+    private static List<String> otherwise(String word) {
+        List<String> all = new ArrayList<>();
+        for (int i = 0; i < word.length(); i++) {
+            all.add(word.substring(0, i) + "z" + word.substring(i + 1));
+            all.add(word.substring(0, i) + word.substring(i + 1));
+        }
+        return all;
     }
 
     private static void opens() {
