@@ -6,7 +6,9 @@ public final class Promises1To12Test {
     private static final Check check = new Check();
 
     public static void main(String[] args) {
+        constants();
         newObject();
+        lastCall();
         count();
         hours();
         room();
@@ -27,6 +29,23 @@ public final class Promises1To12Test {
         FlatToLet x = new FlatToLet();
         for (int v = 0; v < viewers; v++) x.viewer(7 * v, 100 * v + v);
         return x;
+    }
+
+    private static void constants() {
+        check.says("Terms 2", "NONE there is no such thing; BAD a number is not as told; STATE as told; FULL.");
+        check.due("NONE", FlatToLet.NONE, -1);
+        check.due("BAD", FlatToLet.BAD, -2);
+        check.due("STATE", FlatToLet.STATE, -3);
+        check.due("FULL", FlatToLet.FULL, -4);
+        check.due("NO", FlatToLet.NO, -(1L << 62));
+    }
+
+    /** An object is used for at most 512 calls, and the last answers as the first. */
+    private static void lastCall() {
+        FlatToLet x = new FlatToLet();
+        for (int n = 1; n <= 510; n++) check.due("call " + n, x.hours(n % 12), n == 1 ? 6 : (n - 1) % 12);
+        check.due("call 511", x.viewer(59, 99999), 0);
+        check.due("call 512", x.one(0, 0), 999);
     }
 
     private static void newObject() {

@@ -85,6 +85,7 @@ public final class Promises22To31Test {
             check.due("text " + t + ": laws", x.laws(0, 1, 0), 1 << t);
             check.due("text " + t + ": kinds", x.kinds(0, 1, 0, 0), 0b001000);
             check.due("text " + t + ": another room's light", x.rooms(0, 1, 0, 0), 100);
+            check.due("text " + t + ": however rich", x.riches(0, 1, 0, 0), 1000);
             check.due("text " + t + ": film", x.film(0, 2, 0), due[t - 1][6]);
             for (int h = 0; h < 12; h++) {
                 x.cell(1, h, due[t - 1][h] + 1);
@@ -437,12 +438,11 @@ public final class Promises22To31Test {
         odds(full, 0, 1, 79999, 0, 1);
         check.due("a ninth", full.odds(0, 1, 80000, 0), NO);
         FlatToLet last = Check.under("likes 1;keeps 1;offers rich;");
-        for (int v = 0; v < 8; v++) last.viewer(0, 100 * v);
+        for (int v = 0; v < 8; v++) last.viewer(0, v % 2 * 900);
         for (int v = 0; v < 8; v++) {
             odds(last, 0, 3, 10000 * v, 1, 1);
-            odds(last, 0, 3, 10000 * v + v, 1, 1);
-            odds(last, 0, 3, 10000 * v + v + 1, 0, 1);
-            odds(last, 0, 3, 10000 * v + 9999, 0, 1);
+            for (int least : new int[] {1, 2, 8, 9}) odds(last, 0, 3, 10000 * v + least, v % 2, 1);
+            for (int least : new int[] {10, 9998, 9999}) odds(last, 0, 3, 10000 * v + least, 0, 1);
         }
     }
 

@@ -54,6 +54,7 @@ public final class RefusalTest {
     private static final Map<String, String> looks = new HashMap<>();
 
     public static void main(String[] args) {
+        check.says("Terms 2", "What is asked changes nothing, but where it is told.");
         for (State at : STATES) looks.put(at.name, Look.at(object(at)));
         lookSees();
         theFlat();
