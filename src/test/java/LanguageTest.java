@@ -68,8 +68,15 @@ public final class LanguageTest {
                 else check.that(f + " is final", Modifier.isFinal(f.getModifiers()) && (f.getType().isPrimitive() || f.getType() == String.class));
             }
             check.that(c + " has some twenty fields", fields <= 20);
-            for (Method m : c.getDeclaredMethods()) check.that(m + " takes seven at most", m.getParameterCount() <= 7);
+            for (Method m : c.getDeclaredMethods()) {
+                check.that(m + " takes seven at most", m.getParameterCount() <= 7);
+                check.that(m + " bears no public name", c == FlatToLet.class || !isOfTheFace(m.getName()));
+            }
         }
+    }
+
+    private static boolean isOfTheFace(String name) {
+        return Arrays.stream(FlatToLet.class.getMethods()).anyMatch(m -> m.getDeclaringClass() == FlatToLet.class && m.getName().equals(name));
     }
 
     private static void words() throws Exception {
